@@ -1033,7 +1033,7 @@ public final class RowChildren {
         int colours;
         int ringLead;
         int ringPeriod;
-        private final int[] children = new int[MOST_COLOURS * MOST_COLOURS];
+        final int[] children = new int[MOST_COLOURS * MOST_COLOURS];
         private final int[] parentWays = new int[(MOST_SEATS + 1) * MOST_COLOURS];
         private final int[] rowsBySet = new int[1 << MOST_COLOURS];
         private final int[] longerBySet = new int[1 << MOST_COLOURS];
@@ -1059,11 +1059,10 @@ public final class RowChildren {
 
         /** The children that were not told, once it is known how many colours there are. */
         void fillGaps() {
-            for (int left = 0; left < colours; left++) {
-                for (int right = 0; right < colours; right++) {
+            for (int left = 0; left < MOST_COLOURS; left++) {
+                for (int right = 0; right < MOST_COLOURS; right++) {
                     if (childOf(left, right) == NONE) {
-                        int sum = left + right;
-                        setChild(left, right, sum < colours ? sum : sum - colours);
+                        setChild(left, right, colours > 0 ? (left + right) % colours : 0);
                     }
                 }
             }
@@ -1517,24 +1516,41 @@ public final class RowChildren {
             length = 0;
             for (int seat = 0; seat < family.lengthOf(row); seat++) {
                 put(table, seat, family.colourAt(row, seat));
+                tallyEdge(seat);
             }
         }
 
-        /** A colour at a seat, behind which nothing stands then. */
+        /**
+         * A colour at a seat, behind which nothing stands then, and the children that it has, down to the left edge.
+         * A child stands a line below its right parent and a seat further left; its left parent stands left of that one.
+         */
         void put(Table table, int seat, int colour) {
-            int from = (seat & 7) * MOST_COLOURS;
+            if (seat < 0 || seat >= MOST_SEATS) {
+                return;
+            }
+            int born = colour & 3;
+            int place = seat;
+            cells[place] = born;
+            for (int depth = 1; depth <= seat; depth++) {
+                born = table.children[cells[place - 1] * MOST_COLOURS + born];
+                place += MOST_SEATS - 1;
+                cells[place] = born;
+            }
+            length = seat + 1;
+        }
+
+        /** Counts what the latest put has brought; the seats left of it must have been counted. */
+        void tallyEdge(int seat) {
+            if (seat < 0 || seat >= MOST_SEATS) {
+                return;
+            }
+            int from = seat * MOST_COLOURS;
             for (int i = from; i < from + MOST_COLOURS; i++) {
                 tallies[i + MOST_COLOURS] = tallies[i];
             }
-            int born = colour & 3;
-            for (int depth = 0; depth <= (seat & 7); depth++) {
-                if (depth > 0) {
-                    born = table.childOf(cell(depth - 1, seat - depth), born) & 3;
-                }
-                cells[depth * MOST_SEATS + (seat & 7) - depth] = born;
-                tallies[from + MOST_COLOURS + born]++;
+            for (int depth = 0; depth <= seat; depth++) {
+                tallies[from + MOST_COLOURS + cell(depth, seat - depth)]++;
             }
-            length = (seat & 7) + 1;
         }
 
         boolean has(int depth, int seat) {
@@ -1744,7 +1760,6 @@ public final class RowChildren {
 
         void towardsLast(Table table, int rowLength, int colour) {
             wanted = colour;
-            mostOfOne = ENDLESS;
             search(table, rowLength);
         }
 
@@ -1781,16 +1796,20 @@ public final class RowChildren {
             }
             for (int colour = 0; colour < table.colours; colour++) {
                 search.triangle.put(table, seat, colour);
-                if (search.canStillBe(seat + 1, table.colours)) {
+                if (search.canStillBe(seat, table.colours)) {
                     int dearer = price + search.prices[seat * MOST_COLOURS + colour];
                     goThrough(search, table, seat + 1, dearer, number * table.colours + colour);
                 }
             }
         }
 
-        private boolean canStillBe(int seats, int colours) {
+        private boolean canStillBe(int seat, int colours) {
+            if (wanted != FAIRNESS) {
+                return true;
+            }
+            triangle.tallyEdge(seat);
             for (int colour = 0; colour < colours; colour++) {
-                if (triangle.tally(seats, colour) > mostOfOne) {
+                if (triangle.tally(seat + 1, colour) > mostOfOne) {
                     return false;
                 }
             }
