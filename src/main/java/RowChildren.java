@@ -264,11 +264,7 @@ public final class RowChildren {
         if (!isRow(row) || !isColour(colour) || !isOneOfTwo(what)) {
             return NONE;
         }
-        for (int seat = 0; seat < family.lengthOf(row); seat++) {
-            for (int other = 0; other < text.table.colours; other++) {
-                repainting.setPrice(seat, other, family.colourAt(row, seat) == other ? 0 : costsOf(row, seat, other));
-            }
-        }
+        setPrices(row, true);
         repainting.towardsLast(text.table, family.lengthOf(row), colour);
         return repainting.answer(what);
     }
@@ -277,11 +273,7 @@ public final class RowChildren {
         if (!isRow(row) || !isOneOfTwo(what)) {
             return NONE;
         }
-        for (int seat = 0; seat < family.lengthOf(row); seat++) {
-            for (int other = 0; other < text.table.colours; other++) {
-                repainting.setPrice(seat, other, family.colourAt(row, seat) == other ? 0 : 1);
-            }
-        }
+        setPrices(row, false);
         repainting.towardsFair(text.table, family.lengthOf(row));
         return repainting.answer(what);
     }
@@ -338,8 +330,8 @@ public final class RowChildren {
     public int ways() {
         Table table = text.table;
         int bits = table.isAlikeBothWays() ? 1 : 0;
-        bits |= table.isUnlikeByRight() ? 2 : 0;
-        bits |= table.isUnlikeByLeft() ? 4 : 0;
+        bits |= table.isUnlike(true) ? 2 : 0;
+        bits |= table.isUnlike(false) ? 4 : 0;
         bits |= table.isAssociative() ? 8 : 0;
         bits |= table.keepsAlike() ? 16 : 0;
         bits |= table.hasNeutral() ? 32 : 0;
@@ -598,6 +590,16 @@ public final class RowChildren {
     }
 
     // ---- small questions
+
+    /** What each seat is repainted for: by the law, or 1 each. */
+    private void setPrices(int row, boolean byLaw) {
+        for (int seat = 0; seat < family.lengthOf(row); seat++) {
+            for (int colour = 0; colour < text.table.colours; colour++) {
+                int price = byLaw ? costsOf(row, seat, colour) : 1;
+                repainting.setPrice(seat, colour, family.colourAt(row, seat) == colour ? 0 : price);
+            }
+        }
+    }
 
     private boolean otherLastBy(int row, int seat, int last) {
         int length = family.lengthOf(row);
@@ -1079,24 +1081,12 @@ public final class RowChildren {
             return true;
         }
 
-        boolean isUnlikeByRight() {
-            for (int left = 0; left < colours; left++) {
+        /** Of one colour and any two unlike ones on its right, or else on its left, the children are unlike. */
+        boolean isUnlike(boolean byRight) {
+            for (int one = 0; one < colours; one++) {
                 int seen = 0;
-                for (int right = 0; right < colours; right++) {
-                    seen |= 1 << childOf(left, right);
-                }
-                if (Integer.bitCount(seen) < colours) {
-                    return false;
-                }
-            }
-            return true;
-        }
-
-        boolean isUnlikeByLeft() {
-            for (int right = 0; right < colours; right++) {
-                int seen = 0;
-                for (int left = 0; left < colours; left++) {
-                    seen |= 1 << childOf(left, right);
+                for (int other = 0; other < colours; other++) {
+                    seen |= 1 << (byRight ? childOf(one, other) : childOf(other, one));
                 }
                 if (Integer.bitCount(seen) < colours) {
                     return false;

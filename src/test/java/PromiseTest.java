@@ -129,6 +129,7 @@ public final class PromiseTest {
         fault("row row 1;", 1, 4);
         fault("row right 1;", 1, 4);
         fault("row abcdefgh 1;", 0, NONE);
+        fault("row xow 1; row volours 0; row i 0; row elsa 1;", 0, NONE);
         fault("row abcdefghi 1;", 1, 4);
         fault("row a 1 b;", 1, 8);
         fault("row a 1, 0;", 1, 7);
@@ -192,7 +193,10 @@ public final class PromiseTest {
         check.part("promises 4, 5: sense");
         fault("row a 0; row a 1;", 3, 13);
         fault("row a 0; row b 1; row a 9;", 3, 22);
-        fault("row a 0; row aa 1;", 0, NONE);
+        fault("row a 0; row aa 1; row aaa 1;", 0, NONE);
+        fault("row b 0; row bb 1; row bbb 1;", 0, NONE);
+        fault("row ab 0; row ba 0; row c 0;", 0, NONE);
+        fault("row aaaaaaaa 0; row aaaaaaab 0; row baaaaaaa 0; row baaaaaaa 0;", 3, 52);
         fault("row a 4; row a 1;", 5, 6);
         fault("colours 1;", 5, 8);
         fault("colours 5;", 5, 8);
@@ -241,10 +245,15 @@ public final class PromiseTest {
         due("undo", 0, x.undo() ? 1 : 0);
         due("restore", 0, x.restore(1) ? 1 : 0);
         due("costs as not told", 1, x.costs(0, 1, 0));
+        due("worth as not told", 1, x.worth(0, 0, 1));
+        Check.read(x, "child 0 0 1; child 1 1 1;");
+        due("child as told", 1, x.child(0, 0));
         due("an empty text", 0, x.read());
         due("COLOURS", 2, x.count(0));
         due("ROWS", 0, x.count(1));
         due("child as not told", 1, x.child(0, 1));
+        due("child as not told", 0, x.child(0, 0));
+        due("child as not told", 0, x.child(1, 1));
     }
 
     private void child() {
@@ -282,6 +291,8 @@ public final class PromiseTest {
         due("0 1 2 0 is turned", 1, turned.row(0, 5));
         due("1 1 1 is turned", 1, turned.row(1, 5));
         due("0 1 is not", 0, turned.row(2, 5));
+        due("as the right side alone", 0, Check.of(LEFT + "row a 0 1 0;").row(0, 5));
+        due("as the left side alone", 0, Check.of(RIGHT + "row a 0 1 0;").row(0, 5));
         RowChildren fair = Check.of("colours 4; row a 1; row b 1 2; row c 1 1; row d 0 0 0;");
         due("one of four is fair", 1, fair.row(0, 4));
         due("1 2 3 is fair", 1, fair.row(1, 4));
@@ -312,6 +323,7 @@ public final class PromiseTest {
         due("many 1", 5, x.many(0, 1));
         due("many 2", 3, x.many(0, 2));
         due("many none", 0, x.many(1, 0));
+        due("many of 36", 28, Check.of(ALWAYS_0 + "row a 1 1 1 1 1 1 1 1;").many(0, 0));
         due("many wrong colour", NONE, x.many(0, 3));
         due("many wrong colour", NONE, x.many(0, -1));
         due("many wrong row", NONE, x.many(3, 0));
@@ -340,6 +352,8 @@ public final class PromiseTest {
         worthOf("(0 - 7) / 2 + 10", 7);
         worthOf("7 / (0 - 2) + 10", 7);
         worthOf("10 - (4 - (3 - 1))", 8);
+        worthOf("((((((7 - 1) - 1) - 1) - 1) - 1) - 1)", 1);
+        worthOf("((((((7)))))) * (2 + (((((1)) + 2))))", 35);
         worthOf("99", 99);
         worthOf("100", 99);
         worthOf("0 - 1", 0);
@@ -424,6 +438,8 @@ public final class PromiseTest {
         due("many is another now", 1, x.costs(0, 0, 0));
         due("paint", 4, x.paint(0, 2, 1));
         due("paid", 7, x.count(3));
+        x.go(0);
+        due("one who is gone", NONE, x.paint(0, 3, 0));
         RowChildren y = Check.of("row a 0 1; costs = 250 - depth;");
         due("costs held", 99, y.paint(0, 1, 0));
         due("costs as not told", 1, Check.of("row a 0;").costs(0, 0, 1));
@@ -496,6 +512,13 @@ public final class PromiseTest {
         mishap("row a 0 0; odds = 84; seed 9999;", 1, 0);
         mishap("colours 3; row a 1 1; odds = 100;", 1, 0);
         mishap("colours 3; row a 2 1; odds = 100;", 1, 1);
+        int seed = 0;
+        while (Model.lot(100, seed, 0) != 99) {
+            seed++;
+        }
+        mishap("row a 0 0; odds = 99; seed " + seed + ";", 1, 0);
+        mishap("row a 0 0; odds = 100; seed " + seed + ";", 1, 1);
+        mishap("row a 0 0; odds = 9999; seed " + seed + ";", 1, 1);
         RowChildren x = Check.of("row z 1; row a 0 0 0; odds = 9;");
         x.times(1);
         due("the row's number counts 16", 2, x.row(1, 1));
@@ -644,6 +667,9 @@ public final class PromiseTest {
         for (int n = 1; n <= 4; n++) {
             due("orphans " + n, orphans[n - 1], y.orphans(n));
         }
+        RowChildren some = Check.of("colours 3; child 0 0 1; child 1 2 2;");
+        due("0 0 has none", 1, some.orphans(2));
+        due("0 1 0 and all with 0 0", 6, some.orphans(3));
         RowChildren z = Check.of(ALWAYS_0 + "row a 0 0 0 0 0 0 0 0;");
         due("all of nine", 512, z.parents(0, 0));
         due("orphans 8", 255, z.orphans(8));
@@ -696,7 +722,9 @@ public final class PromiseTest {
         due("right", 2 + 8 + 16, Check.of(RIGHT).ways());
         due("always 0", 1 + 8, Check.of(ALWAYS_0).ways());
         due("added", 1 + 2 + 4 + 8 + 32, new RowChildren().ways());
-        due("not associative", 1 + 2 + 4, Check.of("child 0 0 1; child 0 1 0; child 1 0 0; child 1 1 1; colours 2;").ways() & 7);
+        due("always 1", 1 + 8, Check.of("child 0 0 1; child 0 1 1; child 1 0 1; child 1 1 1;").ways());
+        due("1 is neutral", 1 + 2 + 4 + 8 + 32, Check.of("child 0 0 1; child 0 1 0; child 1 0 0; child 1 1 1;").ways());
+        due("neither way", 0, Check.of("child 0 0 1; child 0 1 0; child 1 0 1; child 1 1 1;").ways());
         due("by three", 1 + 2 + 4 + 16, Check.of("colours 3; child 0 0 0; child 1 1 1; child 2 2 2; child 0 1 2;"
                 + "child 1 0 2; child 0 2 1; child 2 0 1; child 1 2 0; child 2 1 0;").ways());
         RowChildren x = Check.of(BOTH);
@@ -708,6 +736,7 @@ public final class PromiseTest {
         due("none", NONE, x.shut(0));
         due("16", NONE, x.shut(16));
         due("lowest", NONE, x.shut(LOWEST));
+        due("0 0 have 1", 3, Check.of("child 0 0 1;").shut(1));
         RowChildren y = Check.of("colours 4;");
         due("0", 1, y.shut(1));
         due("1", 15, y.shut(2));
@@ -863,6 +892,8 @@ public final class PromiseTest {
         check.part("promises 35, 36");
         RowChildren x = Check.of("colours 3;");
         due("all", 729, x.rows(0, 6, 0));
+        due("all of 1", 3, x.rows(0, 1, 0));
+        due("the only place", 0, x.look(0, 1));
         due("the least", 0, x.rows(0, 6, 1));
         due("of alike ones the first", 0, x.look(0, 3));
         x.tell(0, 0, 2, true);
@@ -962,6 +993,11 @@ public final class PromiseTest {
         int[] due = {3, 3, 0, 1, 7, 6, 14, 1 | 4, 20, 3, 2, 1, 7, 2};
         for (int what = 0; what < due.length; what++) {
             due("count " + what, due[what], x.count(what));
+        }
+        RowChildren four = Check.of("colours 3; row a 2 2; row b 0; row c 0 0 0; row d 2;");
+        int[] dueOfFour = {3, 4, 0, 0, 7, 2 | 8, 7, 7, 0, 0, 0, 0, 5, 2 | 8};
+        for (int what = 0; what < dueOfFour.length; what++) {
+            due("count of four " + what, dueOfFour[what], four.count(what));
         }
         due("count 14", NONE, x.count(14));
         due("count -1", NONE, x.count(-1));
