@@ -581,7 +581,9 @@ public final class PromiseTest {
         due("none", 0, z.makes(1, 2, 0));
         due("no least", -2, z.makes(1, 2, 1));
         due("of 1", 1, z.makes(1, 1, 1));
+        due("none of 8", 0, z.makes(1, 8, 0));
         Check.read(z, LEFT);
+        due("another table", 128, z.makes(1, 8, 0));
         due("another table", 2, z.makes(1, 2, 0));
         due("another table's least", 2, z.makes(1, 2, 1));
         int[][] wrong = {{3, 4, 0}, {-1, 4, 0}, {0, 0, 0}, {0, 9, 0}, {0, 4, 2}, {0, 4, -1}, {0, LOWEST, 0}, {0, HIGHEST, 1}};
@@ -609,6 +611,9 @@ public final class PromiseTest {
         RowChildren free = Check.of("row a 1 1; costs = 0;");
         due("for nothing", 0, free.repaint(0, 0, 0));
         due("the least number", 0, free.repaint(0, 0, 1));
+        RowChildren eight = Check.of("row a 0 0 0 0 0 0 0 0; costs = seat + 1;");
+        due("the first seat is the cheapest", 1, eight.repaint(0, 1, 0));
+        due("1 0 0 0 0 0 0 0", 128, eight.repaint(0, 1, 1));
         RowChildren dear = Check.of(BOTH + "row a 0 0 0; costs = 60;");
         due("prices are added", 180, dear.repaint(0, 1, 0));
         int[][] wrong = {{3, 0, 0}, {-1, 0, 0}, {0, 3, 0}, {0, -1, 0}, {0, 0, 2}, {0, 0, -1}};
@@ -727,6 +732,8 @@ public final class PromiseTest {
         due("neither way", 0, Check.of("child 0 0 1; child 0 1 0; child 1 0 1; child 1 1 1;").ways());
         due("by three", 1 + 2 + 4 + 16, Check.of("colours 3; child 0 0 0; child 1 1 1; child 2 2 2; child 0 1 2;"
                 + "child 1 0 2; child 0 2 1; child 2 0 1; child 1 2 0; child 2 1 0;").ways());
+        due("not associative, by 0 between alone", 0, Check.of("colours 3; child 0 0 0; child 0 1 0; child 0 2 0;"
+                + "child 1 0 1; child 1 1 1; child 1 2 1; child 2 0 2; child 2 1 1; child 2 2 1;").ways());
         RowChildren x = Check.of(BOTH);
         due("shut 1", 1, x.shut(1));
         due("shut 2", 2, x.shut(2));
@@ -922,6 +929,7 @@ public final class PromiseTest {
         y.tell(0, 0, 0, true);
         y.tell(0, 1, 0, true);
         due("0 0 .", 2, y.look(4, 3));
+        lookBeneath();
         RowChildren z = Check.of("colours 4; row a 0;");
         z.tell(5, 0, 3, true);
         due("the last of six", 1024, z.rows(1, 6, 0));
@@ -934,6 +942,22 @@ public final class PromiseTest {
         for (int[] w : wrongLook) {
             due("look wrong", NONE, z.look(w[0], w[1]));
         }
+    }
+
+    /** Seats 0 and 1 are 0 or 1, and their child tells which, both at once. */
+    private void lookBeneath() {
+        RowChildren x = Check.of("colours 4; child 0 0 0; child 0 1 1; child 1 0 2; child 1 1 3;");
+        for (int seat = 0; seat < 2; seat++) {
+            x.tell(0, seat, 2, false);
+            x.tell(0, seat, 3, false);
+        }
+        due("four of 2", 4, x.rows(4, 2, 0));
+        due("look beneath", 10, x.look(4, 2));
+        for (int seat = 2; seat < 6; seat++) {
+            x.tell(0, seat, 0, true);
+        }
+        due("four of 6", 4, x.rows(8, 6, 0));
+        due("look beneath", 10, x.look(8, 6));
     }
 
     private void holdAndRestore() {
@@ -999,6 +1023,7 @@ public final class PromiseTest {
         for (int what = 0; what < dueOfFour.length; what++) {
             due("count of four " + what, dueOfFour[what], four.count(what));
         }
+        due("the first and the third of four", 1 | 4, Check.of("row a 0; row b 0 0; row c 0; row d 1 1;").count(13));
         due("count 14", NONE, x.count(14));
         due("count -1", NONE, x.count(-1));
         due("count highest", NONE, x.count(HIGHEST));
