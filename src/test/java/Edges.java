@@ -146,7 +146,7 @@ class Edges {
         for (int row = 0; row < rows; row++) {
             moment.append(" row ").append(x.row(row, 0)).append(' ').append(x.row(row, 1)).append(' ').append(x.row(row, 6));
             moment.append(' ').append(x.costs(row, 0, 0)).append(' ').append(x.costs(row, 0, 1));
-            moment.append(' ').append(x.year(row, 0, 2, 20));
+            moment.append(' ').append(x.then(row, 1, 0)).append(' ').append(x.then(row, 2, 0));
         }
         return moment.append(" paid ").append(x.paidIn(2)).toString();
     }

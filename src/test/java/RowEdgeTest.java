@@ -118,6 +118,15 @@ public final class RowEdgeTest extends Edges {
         due("0 1 0, right SIDE 0 1 0, left SIDE up 0 0 0", 0, Check.of(LEFT + "row a 0 1 0;").row(0, 5));
         due("0 1 0 over 0 1 over 0, left SIDE up 0 0 0", 0, Check.of("child 0 1 0; child 1 0 1; row a 0 1 0;").row(0, 5));
         due("eight", 1, Check.of("row a 0 0 0 0 0 0 0 0;").row(0, 5));
+        RowChildren third = Check.of("colours 3; child 0 0 0; child 1 1 1; child 2 2 2; child 0 1 2; child 1 0 2; child 0 2 1;"
+                + "child 2 0 1; child 1 2 0; child 2 1 0; row a 0 1 2 0; row b 0 1 0 2; row c 0 1; row d 2 1 0 2;");
+        int[] turned = {1, 0, 0, 1};
+        for (int row = 0; row < 4; row++) {
+            due("the third colour, row " + row, turned[row], third.row(row, 5));
+        }
+        RowChildren longer = Check.of("row a 1 1 1 1 1 1 1 1; row b 0 0;");
+        due("a longer one", 0, longer.row(0, 5));
+        due("a shorter one behind it", 1, longer.row(1, 5));
         due("eight but for its end", 0, Check.of("row a 0 0 0 0 0 0 0 1;").row(0, 5));
     }
 
@@ -171,6 +180,13 @@ public final class RowEdgeTest extends Edges {
         RowChildren x = four();
         edges("many", new int[] {0, 0}, new int[] {0, 3, 0, 2}, a -> x.many(a[0], a[1]));
         says("promise 10", "How often a colour is in a ROW's TRIANGLE");
+        int[][] due = {{0, 0, 1}, {1, 2, 0}, {2, 3, 5}};
+        for (int row = 0; row < 3; row++) {
+            for (int colour = 0; colour < 3; colour++) {
+                due("row " + row + ", colour " + colour, due[row][colour], x.many(row, colour));
+            }
+        }
+        due("36 in all", 36, x.many(3, 0) + x.many(3, 1) + x.many(3, 2));
         due("never", 0, x.many(0, 0));
         due("once", 1, x.many(0, 2));
         due("28 of 36", 28, Check.of(ALL_0 + "row a 1 1 1 1 1 1 1 1;").many(0, 0));
@@ -243,6 +259,8 @@ public final class RowEdgeTest extends Edges {
         law("20 - 12 / 4 * 2", 14);
         law("(20 - 12) / 4 * 2", 4);
         law("((((((9))))))", 9);
+        law("if ((((((1)))))) < ((((((2)))))) then ((((((3)))))) else ((((((4))))))", 3);
+        law("if ((((((2)))))) < ((((((2)))))) then ((((((3)))))) else ((((((4))))))", 4);
         says("Terms", "PART: UNIT {('*' | '/') UNIT}.");
         law("100 / 5 / 2", 10);
         law("7 / 2 * 2", 6);
@@ -286,13 +304,23 @@ public final class RowEdgeTest extends Edges {
             due("left at DEPTH 0", 0, worthBy("left", 1, 0, seat));
             due("right at DEPTH 0", 0, worthBy("right", 1, 0, seat));
         }
+        RowChildren eight = Check.of("row a 1 0 0 0 0 0 0 0; worth = left * 10 + right + 1;");
+        due("the LAST", 1, eight.row(0, 2));
+        for (int seat = 0; seat < 8; seat++) {
+            due("left, right at DEPTH 0 of LONG 8", 1, eight.worth(0, 0, seat));
+        }
         due("left at DEPTH 1", 1, worthBy("left", 1, 1, 0));
         due("right at DEPTH 1", 2, worthBy("right", 1, 1, 2));
         due("left of the LAST", 2, worthBy("left", 1, 3, 0));
         due("right of the LAST", 3, worthBy("right", 1, 3, 0));
-        RowChildren x = Check.of("row a 1 1; costs = left + right + 1; pays = left + right + seat + depth + 1;");
+        RowChildren x = Check.of("row a 1 1; worth = left + right + 3; costs = left + right + depth + 1;"
+                + "pays = left + right + seat + depth + 1;");
+        due("left, right of WORTH", 5, x.worth(0, 1, 0));
         due("left, right of COSTS", 1, x.costs(0, 1, 0));
+        due("left, right of WORTH", 5, x.worth(0, 1, 0));
         due("left, right of PAYS", 1, x.row(0, 3));
+        x.times(1);
+        due("left, right of PAYS behind ODDS", 1, x.row(0, 3));
         says("part II", "many: how many of that colour are in the ROW (DEPTH 0)");
         due("none", 0, worthBy("many", 1, 1, 0));
         due("two", 2, worthBy("many", 1, 2, 1));
@@ -335,7 +363,17 @@ public final class RowEdgeTest extends Edges {
             due("ODDS 0 by seed " + seed, 0, Check.of(text + "0;").then(0, 1, 0));
             due("ODDS below 0 by seed " + seed, 0, Check.of(text + "0 - 1;").then(0, 1, 0));
         }
-        due("it is at DEPTH 1", 1, Check.of("row a 0 0; odds = depth * 100;").then(0, 1, 0));
+        due("it is at DEPTH 1", 1, Check.of("row a 0 0; odds = if depth < 2 then depth * 100 else 0;").then(0, 1, 0));
+        String colour = "odds = if colour < 2 then colour * 100 else 0;";
+        due("its colour", 2, Check.of("colours 4; row a 1 0;" + colour).then(0, 1, 0));
+        due("its colour, not its left's", 2, Check.of("colours 4; row a 1 1;" + colour).then(0, 1, 0));
+        String many = "odds = if many < 2 then many * 100 else 0;";
+        due("many of it", 2, Check.of("colours 3; row a 1 0 0;" + many).then(0, 1, 0));
+        due("many of it", 0, Check.of("colours 3; row a 1 0 0;" + many).then(0, 1, 1));
+        String length = "odds = if long < 4 then (long - 2) * 100 else 0;";
+        due("long of the ROW", 2, Check.of("colours 3; row a 1 0 0;" + length).then(0, 1, 0));
+        due("which", 1, Check.of("row z 0 0; row a 0 0; odds = which * 100;").then(1, 1, 0));
+        due("which", 0, Check.of("row z 0 0; row a 0 0; odds = which * 100;").then(0, 1, 0));
         due("its left and right", 2, Check.of("colours 3; row a 1 0; odds = left * 50 + (1 - right) * 50;").then(0, 1, 0));
         due("its SEAT", 1, Check.of("row a 0 0 0; odds = seat * 100;").then(0, 1, 1));
         due("not its SEAT's right", 0, Check.of("row a 0 0 0; odds = seat * 100;").then(0, 1, 0));

@@ -91,7 +91,8 @@ public final class SearchEdgeTest extends Edges {
     }
 
     private void makesOfAll() {
-        says("part III", "MAKES of a colour and n (1 .. 8): how many ROWS of n have a LAST of that colour; the least NUMBER of them");
+        says("part III",
+                "MAKES of a colour and n (1 .. 8): how many ROWS of n have a LAST of that colour; the least NUMBER of them");
         for (int colours = 2; colours <= 4; colours++) {
             RowChildren x = Check.of("colours " + colours + ";");
             int all = 1;
@@ -111,6 +112,8 @@ public final class SearchEdgeTest extends Edges {
         due("the first text", 128, x.makes(1, 8, 0));
         Check.read(x, BOTH);
         due("another text", 1, x.makes(1, 8, 0));
+        due("another text", 255, x.makes(0, 8, 0));
+        due("another text", 0, x.makes(0, 8, 1));
         due("a text with a FAULT", 1, Check.read(x, LEFT + "?"));
         due("still the other", 255, x.makes(1, 8, 1));
     }
@@ -133,10 +136,23 @@ public final class SearchEdgeTest extends Edges {
     }
 
     private void repaintPrices() {
-        says("part III", "REPAINT of a ROW to a colour: the least COSTS of all SEATS painted other colours, each as it is now, added");
+        says("part III",
+                "REPAINT of a ROW to a colour: the least COSTS of all SEATS painted other colours, each as it is now, added");
         RowChildren dear = Check.of(BOTH + "row a 0 0 0 0 0 0 0 0; costs = 99;");
         due("the most", 8 * 99, dear.repaint(0, 1, 0));
         due("all", 255, dear.repaint(0, 1, 1));
+        RowChildren rising = Check.of("row a 0 0 0 0 0 0 0 0; costs = seat + 1;");
+        due("the first of 8 SEATS", 1, rising.repaint(0, 1, 0));
+        due("1 0 0 0 0 0 0 0", 128, rising.repaint(0, 1, 1));
+        RowChildren falling = Check.of("row a 0 0 0 0 0 0 0 0; costs = 8 - seat;");
+        due("the last of 8 SEATS", 1, falling.repaint(0, 1, 0));
+        due("0 0 0 0 0 0 0 1", 1, falling.repaint(0, 1, 1));
+        RowChildren byColour = Check.of("colours 4; row a 1; costs = colour * 10 + 1;");
+        int[] prices = {1, 0, 21, 31};
+        for (int colour = 0; colour < 4; colour++) {
+            due("to " + colour, prices[colour], byColour.repaint(0, colour, 0));
+            due("to " + colour, colour, byColour.repaint(0, colour, 1));
+        }
         RowChildren many = Check.of(BOTH + "row a 0 0 0; costs = many * 10 + 1;");
         due("each as it is now", 3, many.repaint(0, 1, 0));
         RowChildren last = Check.of("row a 0 0 0 0; costs = 4 - seat;");
@@ -209,6 +225,16 @@ public final class SearchEdgeTest extends Edges {
         says("part III", "PARENTS of a ROW: how many ROWS, LONGER by 1, have it as their CHILDREN; the least NUMBER");
         due("all of 9", 512, none.parents(3, 0));
         due("all of 9 by 4", 262144, Check.of(fourColours(0) + "row a 0 0 0 0 0 0 0 0;").parents(0, 0));
+        RowChildren added = Check.of("row a 1 0 1 0 0 0 0 1; row b 0 1;");
+        due("two of 9", 2, added.parents(0, 0));
+        due("0 1 1 0 0 0 0 0 1", 128 + 64 + 1, added.parents(0, 1));
+        due("0 0 1", 1, added.parents(1, 1));
+        RowChildren left = Check.of("colours 4; child 0 0 0; child 0 1 0; child 0 2 0; child 0 3 0; child 1 0 1; child 1 1 1;"
+                + "child 1 2 1; child 1 3 1; child 2 0 2; child 2 1 2; child 2 2 2; child 2 3 2; child 3 0 3; child 3 1 3;"
+                + "child 3 2 3; child 3 3 3; row a 0 1; row b 3 2 0 1;");
+        due("0 1 and any", 4, left.parents(0, 0));
+        due("0 1 0", 4, left.parents(0, 1));
+        due("3 2 0 1 0", 3 * 256 + 2 * 64 + 4, left.parents(1, 1));
         RowChildren high = Check.of(fourColours(3) + "row a 3 3 3 3 3 3 3 3;");
         due("one of 9 by 4", 1, high.parents(0, 0));
         due("the highest NUMBER", 262143, high.parents(0, 1));
@@ -223,6 +249,10 @@ public final class SearchEdgeTest extends Edges {
             due("all but one of " + n, (1 << n) - 1, x.orphans(n));
             due("none of " + n, 0, new RowChildren().orphans(n));
             due("none of " + n + " by 4", 0, Check.of("colours 4;").orphans(n));
+        }
+        int[] ofBoth = {0, 0, 1, 4};
+        for (int n = 1; n <= 4; n++) {
+            due("those with 1 0 1 or 1 0 0 1", ofBoth[n - 1], Check.of(BOTH).orphans(n));
         }
         due("all but one of 8 by 4", 65535, Check.of(fourColours(0)).orphans(8));
     }
@@ -276,20 +306,27 @@ public final class SearchEdgeTest extends Edges {
             due("999,999,999 steps", seat == 1 ? 1 : 0, turning.after(0, FARTHEST - 1, seat));
         }
         due("1,000,000,000 steps by three", 1, turning.after(1, FARTHEST, 2));
+        RowChildren late = Check.of("colours 4; child 0 0 1; child 1 1 2; child 2 2 3; child 3 3 1; row a 0;");
+        due("one ahead", 1, late.ring(0, 0));
+        due("three more", 3, late.ring(0, 1));
+        for (int n = 1; n <= 12; n++) {
+            due("one ahead, then 1 2 3", (n - 1) % 3 + 1, late.after(0, n, 0));
+        }
+        due("1,000,000,000 steps", 1, late.after(0, FARTHEST, 0));
         RowChildren eight = Check.of("row a 1 0 0 0 0 0 0 0;");
         due("7 steps", 1, eight.after(0, 7, 3));
         due("8 steps", 0, eight.after(0, 8, 3));
         due("9 steps", 0, eight.after(0, 9, 0));
+        due("1,000,000,000 steps", 0, eight.after(0, FARTHEST, 0));
     }
 
     private void ways() {
         says("part III", "TABLE's ways: for all colours a, b, c");
         for (int table = 0; table < 16; table++) {
-            StringBuilder text = new StringBuilder();
-            for (int both = 0; both < 4; both++) {
-                text.append("child ").append(both / 2).append(' ').append(both % 2).append(' ').append(table >> both & 1).append(';');
-            }
-            due("ways of " + text, waysOfTwo(table), Check.of(text.toString()).ways());
+            waysOf(table, 2);
+        }
+        for (int table = 0; table < 19683; table++) {
+            waysOf(table, 3);
         }
         due("4, added", 47, Check.of("colours 4;").ways());
         due("one of 16 is another", 2 | 4, 6 & Check.of("colours 4; child 3 3 2;").ways());
@@ -301,24 +338,54 @@ public final class SearchEdgeTest extends Edges {
         due("3 is not on the right", 0, 32 & Check.of(neutralThree() + "child 2 3 1;").ways());
     }
 
-    /** The bits of a table of two colours, each told by its words. */
-    private static int waysOfTwo(int table) {
-        int[][] c = {{table & 1, table >> 1 & 1}, {table >> 2 & 1, table >> 3 & 1}};
-        int bits = c[0][1] == c[1][0] ? 1 : 0;
-        bits |= c[0][0] != c[0][1] && c[1][0] != c[1][1] ? 2 : 0;
-        bits |= c[0][0] != c[1][0] && c[0][1] != c[1][1] ? 4 : 0;
-        boolean joined = true;
-        for (int abc = 0; abc < 8; abc++) {
-            int a = abc >> 2;
-            int b = abc >> 1 & 1;
-            int d = abc & 1;
-            joined &= c[c[a][b]][d] == c[a][c[b][d]];
+    /** The ways of a table, and SHUT of each set, as the document's words say them; its digits are the children. */
+    private void waysOf(int table, int colours) {
+        int[][] c = new int[colours][colours];
+        StringBuilder text = new StringBuilder("colours " + colours + ";");
+        int rest = table;
+        for (int both = 0; both < colours * colours; both++) {
+            int left = both / colours;
+            int right = both % colours;
+            c[left][right] = rest % colours;
+            rest /= colours;
+            text.append("child ").append(left).append(' ').append(right).append(' ').append(c[left][right]).append(';');
         }
-        bits |= joined ? 8 : 0;
-        bits |= c[0][0] == 0 && c[1][1] == 1 ? 16 : 0;
-        boolean nought = c[0][0] == 0 && c[0][1] == 1 && c[1][0] == 1;
-        boolean one = c[1][0] == 0 && c[1][1] == 1 && c[0][1] == 0;
-        return bits | (nought || one ? 32 : 0);
+        RowChildren x = Check.of(text.toString());
+        due("ways of " + text, bitsOf(c), x.ways());
+        for (int set = 1; set < 1 << colours; set++) {
+            due("shut " + set + " of " + text, closed(c, set), x.shut(set));
+        }
+    }
+
+    private static int bitsOf(int[][] c) {
+        int bits = 31;
+        for (int a = 0; a < c.length; a++) {
+            boolean neutral = true;
+            for (int b = 0; b < c.length; b++) {
+                neutral &= c[a][b] == b && c[b][a] == b;
+                bits &= c[a][b] == c[b][a] ? ~0 : ~1;
+                for (int d = 0; d < c.length; d++) {
+                    bits &= b != d && c[a][b] == c[a][d] ? ~2 : ~0;
+                    bits &= b != d && c[b][a] == c[d][a] ? ~4 : ~0;
+                    bits &= c[c[a][b]][d] == c[a][c[b][d]] ? ~0 : ~8;
+                }
+            }
+            bits &= c[a][a] == a ? ~0 : ~16;
+            bits |= neutral ? 32 : 0;
+        }
+        return bits;
+    }
+
+    private static int closed(int[][] c, int set) {
+        int closed = set;
+        for (int step = 0; step < 50; step++) {
+            for (int a = 0; a < c.length; a++) {
+                for (int b = 0; b < c.length; b++) {
+                    closed |= (closed >> a & closed >> b & 1) << c[a][b];
+                }
+            }
+        }
+        return closed;
     }
 
     private static String neutralThree() {
@@ -406,6 +473,10 @@ public final class SearchEdgeTest extends Edges {
                 due("of 7 the first, who paints last", 1, x.game(colour, 7, 0));
                 due("of 7 the lowest", 0, x.game(colour, 7, 1));
             }
+        }
+        RowChildren added = new RowChildren();
+        for (int n = 1; n <= 8; n++) {
+            due("who paints the last SEAT of " + n, n % 2 == 0 ? 2 : 1, added.game(1, n, 0));
         }
         RowChildren never = Check.of(ALL_0);
         RowChildren both = Check.of(BOTH);

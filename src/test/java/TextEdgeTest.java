@@ -504,7 +504,11 @@ public final class TextEdgeTest extends Edges {
         faultAt(3, "row a 0; row b 0; row ", "b 1; row a 1;");
         faultAt(3, "row aaaaaaaa 0; row aaaaaaab 0; row ", "aaaaaaab 0;");
         noFault("row aaaaaaaa 0; row aaaaaaab 0; row baaaaaaa 0; row aaaaaaa 0;");
-        noFault("row a 0; row aa 0; row aaa 0; row z 0;");
+        for (char letter = 'a'; letter <= 'z'; letter++) {
+            String one = String.valueOf(letter);
+            noFault("row " + one + " 0; row " + one.repeat(2) + " 0; row " + one.repeat(7) + " 0; row " + one.repeat(8) + " 0;");
+        }
+        noFault("row ab 0; row ba 0; row abz 0; row zba 0;");
         faultAt(3, "row a 0; row ", "a 9;");
         faultAt(5, "row a ", "9; row a 0;");
         faultAt(3, "row a 3; row ", "a 0;");
@@ -526,7 +530,8 @@ public final class TextEdgeTest extends Edges {
     }
 
     private void unknownColours() {
-        says("Terms", "6 COLOUR (at the text's end): a colour of a CHILD (left, right, its own) or of a ROW that is not below COLOURS");
+        says("Terms",
+                "6 COLOUR (at the text's end): a colour of a CHILD (left, right, its own) or of a ROW that is not below COLOURS");
         for (int colours = 2; colours <= 4; colours++) {
             String told = "colours " + colours + "; ";
             int highest = colours - 1;
@@ -562,11 +567,13 @@ public final class TextEdgeTest extends Edges {
         }
     }
 
-    private static RowChildren busyThenTold(String text) {
+    private static RowChildren busyThenTold(String... texts) {
         RowChildren x = busy();
         x.back(11);
-        if (Check.read(x, text) != 0) {
-            throw new IllegalArgumentException("a test's text has a fault: " + text);
+        for (String text : texts) {
+            if (Check.read(x, text) != 0) {
+                throw new IllegalArgumentException("a test's text has a fault: " + text);
+            }
         }
         return x;
     }
@@ -576,6 +583,20 @@ public final class TextEdgeTest extends Edges {
         for (String text : new String[] {"", "row q 1 1 1;", "colours 4; row q 1 0 0; row r 3; seed 5; odds = 50;",
             "worth = 3; pays = 2; costs = 5; child 0 0 1; row z 0;"}) {
             alike("as if nothing had been told ahead of '" + text + "'", Check.of(text), busyThenTold(text));
+            alike("as if nothing had been told two ahead of '" + text + "'", Check.of(text), busyThenTold("", text));
+            alike("as if nothing had been told three ahead", Check.of(text), busyThenTold("row z 0 1;", "seed 3;", text));
+        }
+        String[] oddly = {"child 0 0 1;", "child 0 1 0;", "child 1 0 0;", "child 1 1 1;", "colours 4;", "odds = 100;", "seed 1;",
+            "worth = 9;", "costs = 9;", "pays = 9;", "row a 1 1 1; row b 1; row c 0; row d 0;"};
+        String plain = "row z 0 1 1; odds = 36;";
+        for (String told : oddly) {
+            RowChildren again = Check.of(told);
+            Check.read(again, plain);
+            alike("'" + told + "' is told no more", Check.of(plain), again);
+            RowChildren later = Check.of(told);
+            later.read();
+            Check.read(later, plain);
+            alike("'" + told + "' is told no more, two texts on", Check.of(plain), later);
         }
         RowChildren x = busyThenTold("row q 1 1 1;");
         says("Terms", "time 0, nothing paid");
